@@ -1013,21 +1013,25 @@ public final class VersionResolver {
         }
 
         private void imposeRule(int rule) {
+            int pack = conditionPack[rule];
             int target = targetPack[rule];
+            if (!isPack(target)) {
+                return;
+            }
+            int inCondition = conditionValues[rule];
             int failing = ALL_VALUES & ~holdingValues[rule];
             long failingSpots = (long) failing << VALUES * target;
-            int pack = conditionPack[rule];
-            if (pack == NONE) {
+            if (!isPack(pack)) {
                 open &= ~failingSpots;
                 return;
             }
-            long conditionSpots = (long) conditionValues[rule] << VALUES * pack;
-            for (int spot = 0; spot < SPOTS; spot++) {
-                if ((conditionSpots >>> spot & 1) == 1) {
-                    fits[spot] &= ~failingSpots;
+            long conditionSpots = (long) inCondition << VALUES * pack;
+            for (int value = 0; value < VALUES; value++) {
+                if ((inCondition >> value & 1) == 1) {
+                    fits[VALUES * pack + value] &= ~failingSpots;
                 }
-                if ((failingSpots >>> spot & 1) == 1) {
-                    fits[spot] &= ~conditionSpots;
+                if ((failing >> value & 1) == 1) {
+                    fits[VALUES * target + value] &= ~conditionSpots;
                 }
             }
         }

@@ -1,6 +1,10 @@
 import java.util.Random;
 
-/** Random runs of at most 512 calls, each answer compared with SlowResolver's. */
+/**
+ * Random runs, each answer compared with SlowResolver's. Loose runs try every call in every state,
+ * wrong arguments too; dense runs begin with many versions and rules, so that there is much to
+ * solve, to refuse and to explain.
+ */
 public final class RandomRunsTest {
   private static final int CALLS = 512;
   private static int wrong = 0;
@@ -9,7 +13,7 @@ public final class RandomRunsTest {
   private final int run;
   private final int packs;
   private final int versions;
-  private final boolean manyRules;
+  private final boolean dense;
   private final VersionResolver fast = new VersionResolver();
   private final SlowResolver slow = new SlowResolver();
   private final StringBuilder trace = new StringBuilder();
@@ -19,9 +23,9 @@ public final class RandomRunsTest {
   private RandomRunsTest(int run, long seed) {
     this.run = run;
     random = new Random(seed);
-    packs = 1 + random.nextInt(8);
+    dense = random.nextBoolean();
+    packs = dense ? 3 + random.nextInt(6) : 1 + random.nextInt(8);
     versions = packs <= 4 ? 4 : packs <= 6 ? 1 + random.nextInt(3) : 1 + random.nextInt(2);
-    manyRules = random.nextBoolean();
   }
 
   public static void main(String[] args) {
@@ -34,7 +38,11 @@ public final class RandomRunsTest {
   }
 
   private void play() {
-    while (calls < CALLS && !failed) step();
+    if (dense) fill();
+    while (calls < CALLS && !failed) {
+      if (dense) denseStep();
+      else step();
+    }
   }
 
   private void due(String call, long got, long want) {
@@ -49,11 +57,19 @@ public final class RandomRunsTest {
 
   private int below(int end) { return random.nextInt(end); }
 
-  private int pack() { return below(40) == 0 ? below(12) - 2 : below(packs); }
+  private int wild() {
+    int[] wild = {Integer.MIN_VALUE, Integer.MAX_VALUE, -33, -9, -2, 8, 31, 32, 40, 64, 1 << 30};
+    return wild[below(wild.length)];
+  }
+
+  private int pack() {
+    if (below(60) == 0) return wild();
+    return below(40) == 0 ? below(12) - 2 : below(packs);
+  }
 
   private int version() {
     int kind = below(40);
-    if (kind == 0) return below(2) == 0 ? -1 - below(4) : 1000 + below(3);
+    if (kind == 0) return below(3) == 0 ? wild() : below(2) == 0 ? -1 - below(4) : 1000 + below(3);
     if (kind < 6) return below(1000);
     return 100 * below(3) + 10 * below(3) + below(3);
   }
@@ -109,7 +125,7 @@ public final class RandomRunsTest {
 
   private void typeText(String text) {
     for (int i = 0; i < text.length() && calls < CALLS; i++) {
-      int letter = text.charAt(i);
+      int letter = below(200) == 0 ? wild() : text.charAt(i);
       due("type(" + letter + ")", fast.type(letter), slow.type(letter));
     }
   }
@@ -137,10 +153,40 @@ public final class RandomRunsTest {
     }
   }
 
+  private void fill() {
+    for (int p = 0; p < packs; p++) {
+      for (int i = 0; i < versions; i++) {
+        int v = 100 * below(3) + 10 * below(2);
+        due("publish(" + p + ", " + v + ")", fast.publish(p, v), slow.publish(p, v));
+      }
+    }
+    for (int i = 4 + below(17); i > 0; i--) addShortRule();
+  }
+
+  private void addShortRule() {
+    String[] ranges = {"*", "*", "*", "1", "2", ">0", ">=1", "<2", "^1", "~0.1", ">1", "0|2", "<=1"};
+    String text = below(10) == 0 ? "#" + (1 + below(2)) : "";
+    if (below(5) != 0) text += letter() + ranges[below(ranges.length)];
+    text += below(3) == 0 ? ":!" : ":";
+    text += letter() + ranges[below(ranges.length)];
+    clear();
+    typeText(text);
+    due("add()", fast.add(), slow.add());
+  }
+
+  private void denseStep() {
+    int kind = below(100);
+    if (kind < 10) publishOrYank();
+    else if (kind < 18) addShortRule();
+    else if (kind < 36) otherChange();
+    else if (kind < 94) ask();
+    else due("digest()", fast.digest(), slow.digest());
+  }
+
   private void step() {
     int kind = below(100);
     if (kind < 22) publishOrYank();
-    else if (kind < (manyRules ? 50 : 32)) addRule();
+    else if (kind < 42) addRule();
     else if (kind < 54) readText();
     else if (kind < 66) otherChange();
     else if (kind < 94) ask();
@@ -162,7 +208,7 @@ public final class RandomRunsTest {
   private void otherChange() {
     switch (below(5)) {
       case 0 -> {
-        int f = below(6);
+        int f = below(20) == 0 ? wild() : below(6);
         boolean on = below(3) != 0;
         due("setFeature(" + f + ", " + on + ")", fast.setFeature(f, on), slow.setFeature(f, on));
       }
@@ -176,7 +222,8 @@ public final class RandomRunsTest {
         for (int i = below(3); i >= 0; i--) due("undo()", fast.undo(), slow.undo());
       }
       default -> {
-        int r = below(below(8) == 0 ? 24 : Math.max(1, slow.count(0))) - (below(20) == 0 ? 2 : 0);
+        int r = below(below(8) == 0 ? 24 : Math.max(1, slow.count(0)));
+        if (below(20) == 0) r = wild();
         due("drop(" + r + ")", fast.drop(r), slow.drop(r));
       }
     }
@@ -185,12 +232,13 @@ public final class RandomRunsTest {
   private void ask() {
     int p = pack();
     int i = below(10) == 0 ? below(30) - 3 : below(5) - 1;
+    if (below(40) == 0) i = wild();
     switch (below(13)) {
       case 0 -> due("version(" + p + ", " + i + ")", fast.version(p, i), slow.version(p, i));
       case 1 -> due("locked(" + p + ")", fast.locked(p), slow.locked(p));
       case 2 -> {
-        int w = below(9) - 1;
-        int r = below(21);
+        int w = below(20) == 0 ? wild() : below(9) - 1;
+        int r = below(20) == 0 ? wild() : below(21);
         due("rule(" + r + ", " + w + ")", fast.rule(r, w), slow.rule(r, w));
       }
       case 3 -> due("solve(" + i + ")", fast.solve(i), slow.solve(i));
@@ -199,6 +247,7 @@ public final class RandomRunsTest {
       }
       case 5 -> {
         int most = below(4) == 0 ? below(1003) : 1 + below(12);
+        if (below(20) == 0) most = wild();
         due("solutions(" + most + ")", fast.solutions(most), slow.solutions(most));
       }
       case 6 -> {
