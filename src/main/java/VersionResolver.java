@@ -1138,6 +1138,8 @@ public final class VersionResolver {
         }
 
         private int solutionsFrom(int pack, long left, int most) {
+            // Each choice before has taken what does not fit beside it, and takeUnfit() what never
+            // fits, so that all that is left of the last package makes a solution.
             if (pack >= PACKAGES - 1) {
                 return Math.min(most, Integer.bitCount(valuesOf(left, PACKAGES - 1)));
             }

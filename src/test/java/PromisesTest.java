@@ -145,6 +145,11 @@ public final class PromisesTest {
     due("yank(1, 3)", x.yank(B, 3), 0);
     due("six changes", x.count(5), 6);
     due("publish again", x.publish(B, 2), 1);
+    publishAll(x, H, 1, 2, 3, 4);
+    due("yank of a full package", x.yank(H, 2), 3);
+    due("version(7, 1)", x.version(H, 1), 3);
+    due("version(7, 2)", x.version(H, 2), 4);
+    due("version(7, 3)", x.version(H, 3), NONE);
   }
 
   private static void version() {
@@ -463,6 +468,14 @@ public final class PromisesTest {
     due("rule(0, 2)", x.rule(0, 2), C);
     due("undo()", x.undo(), 6);
     due("rule(0, 2)", x.rule(0, 2), A);
+    x = fresh("15, drop of 20 rules");
+    for (int i = 0; i < 20; i++) rules(x, ":" + (char) ('a' + i % 8) + "*");
+    due("drop(7)", x.drop(7), 19);
+    due("rule(7, 2)", x.rule(7, 2), A);
+    due("rule(18, 2)", x.rule(18, 2), D);
+    due("rule(19, 2)", x.rule(19, 2), BAD);
+    due("drop(18)", x.drop(18), 18);
+    due("rule(17, 2)", x.rule(17, 2), C);
   }
 
   private static void properties(VersionResolver x, int rule, int... due) {
@@ -583,6 +596,18 @@ public final class PromisesTest {
     publishAll(x, C, 0, 1);
     rules(x, ":c*", "c0.0.1:a*", "c0.0.0:b*");
     selection(x, 0, NONE, 1);
+    x = fresh("18, chosen: of equally many changes the fewest packages, kept ones count, too");
+    publishAll(x, B, 100, 200);
+    publishAll(x, C, 100);
+    x.setLock(B, 200);
+    rules(x, ":b*", "b2:c*");
+    selection(x, NONE, 100);
+    x = fresh("18, chosen: an absent package that stays absent is no package");
+    publishAll(x, A, 100);
+    publishAll(x, C, 100, 200);
+    x.setLock(C, 100);
+    rules(x, ":c*", "c1:a*");
+    selection(x, NONE, NONE, 200);
   }
 
   private static void solutions() {
@@ -613,6 +638,17 @@ public final class PromisesTest {
     due("625 selections", x.solutions(1000), 625);
     rules(x, "a*:!h*");
     due("125 selections", x.solutions(1000), 125);
+    x = fresh("19, solutions, with the last package in the condition");
+    publishAll(x, A, 100);
+    publishAll(x, H, 100, 200);
+    rules(x, "h1:a*");
+    due("solutions(1000)", x.solutions(1000), 5);
+    rules(x, "h2:!a*");
+    due("solutions(1000)", x.solutions(1000), 4);
+    rules(x, "h2:h1");
+    due("solutions(1000)", x.solutions(1000), 3);
+    rules(x, "h*:!h1");
+    due("solutions(1000)", x.solutions(1000), 2);
   }
 
   private static void possible() {

@@ -12,6 +12,7 @@ public final class RandomRunsTest {
   private final Random random;
   private final int run;
   private final int packs;
+  private final int firstPack;
   private final int versions;
   private final boolean dense;
   private final VersionResolver fast = new VersionResolver();
@@ -25,11 +26,12 @@ public final class RandomRunsTest {
     random = new Random(seed);
     dense = random.nextBoolean();
     packs = dense ? 3 + random.nextInt(6) : 1 + random.nextInt(8);
+    firstPack = random.nextInt(9 - packs);
     versions = packs <= 4 ? 4 : packs <= 6 ? 1 + random.nextInt(3) : 1 + random.nextInt(2);
   }
 
   public static void main(String[] args) {
-    int runs = args.length > 0 ? Integer.parseInt(args[0]) : 120;
+    int runs = args.length > 0 ? Integer.parseInt(args[0]) : 600;
     long seed = args.length > 1 ? Long.parseLong(args[1]) : 1;
     for (int run = 0; run < runs; run++) new RandomRunsTest(run, seed * 1_000_003 + run).play();
     System.out.println(wrong == 0 ? runs + " random runs: all answers are as due"
@@ -64,7 +66,7 @@ public final class RandomRunsTest {
 
   private int pack() {
     if (below(60) == 0) return wild();
-    return below(40) == 0 ? below(12) - 2 : below(packs);
+    return below(40) == 0 ? below(12) - 2 : firstPack + below(packs);
   }
 
   private int version() {
@@ -97,7 +99,7 @@ public final class RandomRunsTest {
     return text.toString();
   }
 
-  private String letter() { return "" + (char) ('a' + below(packs)); }
+  private String letter() { return "" + (char) ('a' + firstPack + below(packs)); }
 
   private String ruleText() {
     String text = blanks();
@@ -154,7 +156,7 @@ public final class RandomRunsTest {
   }
 
   private void fill() {
-    for (int p = 0; p < packs; p++) {
+    for (int p = firstPack; p < firstPack + packs; p++) {
       for (int i = 0; i < versions; i++) {
         int v = 100 * below(3) + 10 * below(2);
         due("publish(" + p + ", " + v + ")", fast.publish(p, v), slow.publish(p, v));
@@ -255,13 +257,13 @@ public final class RandomRunsTest {
         due("possible(" + p + ", " + v + ")", fast.possible(p, v), slow.possible(p, v));
       }
       case 7 -> {
-        for (int q = 0; q < packs; q++) {
+        for (int q = firstPack; q < firstPack + packs; q++) {
           due("narrowed(" + q + ", 0)", fast.narrowed(q, 0), slow.narrowed(q, 0));
           due("narrowed(" + q + ", 1)", fast.narrowed(q, 1), slow.narrowed(q, 1));
         }
       }
       case 8, 9 -> {
-        for (int q = 0; q < packs; q++) {
+        for (int q = firstPack; q < firstPack + packs; q++) {
           due("why(" + q + ", " + i + ")", fast.why(q, i), slow.why(q, i));
         }
       }
