@@ -788,6 +788,24 @@ public final class PromisesTest {
     rules(x, ":!a*");
     due("no solution", x.why(A, 0), STATE);
     due("bad comes first", x.why(A, -2), BAD);
+    x = fresh("22, why: what the lock alone keeps is no reason");
+    publishAll(x, A, 100);
+    publishAll(x, B, 100);
+    publishAll(x, C, 100);
+    rules(x, "a*:b*");
+    x.setLock(A, 100);
+    x.setLock(B, 100);
+    due("why(1, -1)", x.why(B, -1), NONE);
+    rules(x, ":a*", "b1:c*");
+    sequence(x, C, 1, 0, 2);
+    x.setLock(C, 100);
+    x.drop(1);
+    due("why(0, -1)", x.why(A, -1), NONE);
+    due("why(1, -1)", x.why(B, -1), NONE);
+    due("why(2, 0)", x.why(C, 0), NONE);
+    rules(x, ":c*");
+    sequence(x, C, 2);
+    due("why(1, -1)", x.why(B, -1), NONE);
   }
 
   private static void refused(VersionResolver x, int... rules) {
