@@ -320,6 +320,21 @@ final class DescriptionBoundaries {
     b.make("publish(b, 0)");
     b.due("solutions(1000)", 1);
     b.due("solve(2)", 20);
+    // A rule that has the same package as condition and as target, the first and the last one.
+    for (char pack : "ah".toCharArray()) {
+      b.fresh();
+      b.publishMajors("" + pack, 3);
+      b.rules(pack + "2:" + pack + "1", pack + "3:!" + pack + "*", pack + "*:" + pack + "*");
+      b.due("solutions(1000)", 2);
+      b.due("possible(" + pack + ", NONE)", 1);
+      b.due("possible(" + pack + ", 100)", 1);
+      b.due("possible(" + pack + ", 200)", 0);
+      b.due("possible(" + pack + ", 300)", 0);
+      b.rules(":" + pack + "*");
+      b.due("chosen(" + pack + ")", 100);
+      b.rules(":!" + pack + "1");
+      b.list("refusal(?)", 0, 1, 3, 4);
+    }
   }
 
   private static void lock() {
@@ -420,6 +435,42 @@ final class DescriptionBoundaries {
     b.best(900, 0);
     b.make("yank(a, 900)");
     b.best(0, 0);
+    keptPackagesCount(b.fresh());
+  }
+
+  private static void keptPackagesCount(Boundary b) {
+    // One change each: b kept with c, or b older and without c. h is kept in both.
+    b.publish('b', 100, 200);
+    b.publish('c', 100);
+    b.publish('h', 0);
+    b.make("setLock(b, 200)");
+    b.rules(":b*", "b2:c*");
+    b.due("solve(1)", 1);
+    b.best(NONE, 100);
+    b.make("setLock(h, 0)");
+    b.due("solve(1)", 1);
+    b.best(NONE, 100, NONE, NONE, NONE, NONE, NONE, 0);
+    b.make("setLock(c, 100)");
+    b.due("solve(1)", 0);
+    b.best(NONE, 200, 100, NONE, NONE, NONE, NONE, 0);
+    // A package that is kept absent is none: c is newer and alone, or kept with a.
+    b.fresh();
+    b.publish('a', 100);
+    b.publish('c', 100, 200);
+    b.make("setLock(c, 100)");
+    b.rules(":c*", "c1:a*");
+    b.due("solve(1)", 1);
+    b.best(NONE, NONE, 200);
+    // What the lock had before does not count any more.
+    b.fresh();
+    b.publish('a', 0);
+    b.publish('b', 0);
+    b.publish('c', 100, 200);
+    b.rules(":c*", "c1:a*", "c2:b*");
+    b.make("setLock(b, 0)");
+    b.best(NONE, 0, 200);
+    b.make("setLock(b, NONE)");
+    b.best(0, NONE, 100);
   }
 
   private static void greatestSequence() {

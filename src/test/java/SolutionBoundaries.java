@@ -286,6 +286,29 @@ final class SolutionBoundaries {
     b.asks("possible(a, 0)", 0);
     b.asks("possible(a, NONE)", 0);
     b.asks("possible(g, NONE)", 0);
+    possibleOnlyInPairs(b.fresh());
+  }
+
+  /** a 1.0.0 needs b, c and d, each two of which can differ in their versions, but not all three. */
+  private static void possibleOnlyInPairs(Boundary b) {
+    b.publish('a', 100);
+    b.publishMajors("bcd", 2);
+    b.rules("a1:b*", "a1:c*", "a1:d*", "b1:!c1", "b2:!c2", "c1:!d1", "c2:!d2", "b1:!d1");
+    b.asks("possible(a, 100)", 1);
+    b.asks("possible(d, 100)", 1);
+    // 13 without a where all differ, 2 without a where b and d are both 2, and 1 of those with a.
+    b.asks("solutions(1000)", 16);
+    b.rules("b2:!d2");
+    b.asks("possible(a, 100)", 0);
+    b.asks("possible(a, NONE)", 1);
+    b.asks("possible(d, 100)", 1);
+    b.asks("narrowed(a, 0)", 1);
+    b.asks("solutions(1000)", 13);
+    b.rules(":a*");
+    b.asks("possible(a, 100)", 0);
+    b.asks("possible(d, NONE)", 0);
+    b.asks("solutions(1000)", 0);
+    b.list("refusal(?)", 0, 1, 2, 3, 4, 5, 6, 7, 8, 9);
   }
 
   // ---- narrowed
