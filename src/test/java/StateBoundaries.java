@@ -98,7 +98,7 @@ final class StateBoundaries {
     b.due("publish(h, 6)", 1);
     b.list("version(g, ?)", 6, 7, 8, 9);
     b.make("yank(g, 6)");
-    b.due("publish(g, 8)", STATE);
+    b.refused("publish(g, 8)", STATE);
     b.due("publish(g, 10)", 4);
     b.list("version(g, ?)", 7, 8, 9, 10);
   }
@@ -471,7 +471,7 @@ final class StateBoundaries {
     b.refused("undo()", STATE);
     b.make("type(42)", "clearText()");
     b.refused("undo()", STATE);
-    b.due("yank(a, 0)", STATE);
+    b.refused("yank(a, 0)", STATE);
     b.refused("undo()", STATE);
   }
 }
