@@ -1059,13 +1059,13 @@ public final class VersionResolver {
         /** The best solution of a set of rules, as a bit for each package; 0 if there is none. */
         long best(int rules) {
             impose(rules);
-            if (firstWithin(0, open, GREATEST_COST) == 0) {
+            if (firstWithin(this, 0, open, GREATEST_COST) == 0) {
                 return 0;
             }
             int limit = leastCost(open);
             for (int round = 0; round <= GREATEST_COST; round++) {
                 nextLimit = GREATEST_COST;
-                long found = firstWithin(0, open, limit);
+                long found = firstWithin(this, 0, open, limit);
                 if (found != 0) {
                     return found;
                 }
@@ -1076,7 +1076,7 @@ public final class VersionResolver {
 
         boolean isSolvable(int rules) {
             impose(rules);
-            return firstWithin(0, open, GREATEST_COST) != 0;
+            return firstWithin(this, 0, open, GREATEST_COST) != 0;
         }
 
         boolean isSolvableWith(int rules, int pack, int value) {
@@ -1085,29 +1085,29 @@ public final class VersionResolver {
             if (spot < 0 || spot >= SPOTS || (open >>> spot & 1) == 0) {
                 return false;
             }
-            return firstWithin(0, open & fits[spot], GREATEST_COST) != 0;
+            return firstWithin(this, 0, open & fits[spot], GREATEST_COST) != 0;
         }
 
         /**
          * The solution with the greatest sequence of versions among those that cost at most the
          * limit; 0 if there is none, and then nextLimit is the least cost that was passed over.
          */
-        private long firstWithin(int pack, long left, int limit) {
-            if (pack >= PACKAGES) {
+        private static long firstWithin(Puzzle puzzle, int pack, long left, int limit) {
+            if (puzzle == null || pack < 0 || pack >= PACKAGES) {
                 return left;
             }
             for (int value = VALUES - 1; value >= 0; value--) {
                 int spot = VALUES * pack + value;
-                long next = (left >>> spot & 1) == 1 ? left & fits[spot] : 0;
+                long next = (left >>> spot & 1) == 1 ? left & puzzle.fits[spot] : 0;
                 if (packsOf(next) != ABSENT) {
                     continue;
                 }
-                int cost = leastCost(next);
+                int cost = puzzle.leastCost(next);
                 if (cost > limit) {
-                    nextLimit = Math.min(nextLimit, cost);
+                    puzzle.nextLimit = Math.min(puzzle.nextLimit, cost);
                     continue;
                 }
-                long found = firstWithin(pack + 1, next, limit);
+                long found = firstWithin(puzzle, pack + 1, next, limit);
                 if (found != 0) {
                     return found;
                 }
@@ -1134,21 +1134,21 @@ public final class VersionResolver {
         /** The number of solutions of a set of rules, or most, if there are more. */
         int solutionsOf(int rules, int most) {
             impose(rules);
-            return packsOf(open) == ABSENT ? solutionsFrom(0, open, most) : 0;
+            return packsOf(open) == ABSENT ? solutionsFrom(this, 0, open, most) : 0;
         }
 
-        private int solutionsFrom(int pack, long left, int most) {
+        private static int solutionsFrom(Puzzle puzzle, int pack, long left, int most) {
             // Each choice before has taken what does not fit beside it, and takeUnfit() what never
             // fits, so that all that is left of the last package makes a solution.
-            if (pack >= PACKAGES - 1) {
+            if (puzzle == null || pack < 0 || pack >= PACKAGES - 1) {
                 return Math.min(most, Integer.bitCount(valuesOf(left, PACKAGES - 1)));
             }
             int total = 0;
             for (int value = 0; value < VALUES && total < most; value++) {
                 int spot = VALUES * pack + value;
-                long next = (left >>> spot & 1) == 1 ? left & fits[spot] : 0;
+                long next = (left >>> spot & 1) == 1 ? left & puzzle.fits[spot] : 0;
                 if (packsOf(next) == ABSENT) {
-                    total += solutionsFrom(pack + 1, next, most - total);
+                    total += solutionsFrom(puzzle, pack + 1, next, most - total);
                 }
             }
             return total;

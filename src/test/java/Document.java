@@ -29,7 +29,7 @@ final class Document {
     return lines(section).stream().anyMatch(line -> line.contains(words));
   }
 
-  private List<String> lines(String section) { return sections.getOrDefault(section, List.of()); }
+  List<String> lines(String section) { return sections.getOrDefault(section, List.of()); }
 
   /** The sentences of a section; of what a call returns, each case on its own. */
   List<String> sentences(String section) {
