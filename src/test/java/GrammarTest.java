@@ -10,7 +10,8 @@ public final class GrammarTest {
   // Every text of this length behind each of these beginnings.
   private static final int TAIL = 3;
   private static final String[] BEGINNINGS = {"", "1", "1.2", "1.2.3", "^ ", ">", ">=", "*|", "# ",
-      "#1", "#4 h", "a*", "a 1", "a1.2", "c>=", "a*|", "a*:", ":", ": !", ":!h", "#1b~2:!c", "a1 :b<"};
+      "#1", "#4 h", "a*", "a 1", "a1.2", "c>=", "a*|", "a*:", ":", ": !", ":!h", "#1b~2:!c",
+      "a1 :b<"};
 
   private final Grammar grammar;
   private VersionResolver x = new VersionResolver();

@@ -64,7 +64,8 @@ public final class LanguageTest {
     for (String line : face) if (line.contains("(")) due.add(line.replace(";", ""));
     Set<String> found = new TreeSet<>(Set.of("public VersionResolver()"));
     for (Method m : c.getDeclaredMethods()) {
-      if (!Modifier.isPrivate(m.getModifiers())) found.add(m.toString().replace("VersionResolver.", ""));
+      if (Modifier.isPrivate(m.getModifiers())) continue;
+      found.add(m.toString().replace("VersionResolver.", ""));
     }
     check(found.equals(due), "the face has " + found + ", due is " + due);
     constants(face);
@@ -75,7 +76,8 @@ public final class LanguageTest {
     for (String line : face) {
       String head = "public static final int ";
       if (!line.startsWith(head)) continue;
-      for (String one : line.substring(head.length(), line.length() - 1).split(",")) due.add(one.strip());
+      String list = line.substring(head.length(), line.length() - 1);
+      for (String one : list.split(",")) due.add(one.strip());
     }
     Set<String> found = new TreeSet<>();
     for (Field f : VersionResolver.class.getDeclaredFields()) {
@@ -96,7 +98,10 @@ public final class LanguageTest {
   /** No private method bears the name of a public one. */
   private static void names(List<String> face) {
     Set<String> open = new HashSet<>();
-    for (String line : face) if (line.contains("(")) open.add(line.replaceAll("\\(.*|.* (?=\\w+\\()", ""));
+    for (String line : face) {
+      if (line.contains("(")) open.add(line.replaceAll("\\(.*|.* (?=\\w+\\()", ""));
+    }
+    check(open.contains("wouldChange"), "the names of the face are " + open);
     List<Class<?>> classes = new ArrayList<>(List.of(VersionResolver.class.getDeclaredClasses()));
     classes.add(VersionResolver.class);
     for (Class<?> c : classes) {
@@ -128,12 +133,14 @@ public final class LanguageTest {
     }
   }
 
-  /** Rule 8: a private static method that calls itself, begins with a guard, and no other circle. */
+  /** Rule 8: only private static methods call themselves, and have a guard; no other circle. */
   private static void recursion(SourceScan scan) {
     for (Map.Entry<String, MethodTree> entry : scan.methods.entrySet()) {
       String name = entry.getKey();
       Set<String> reached = new HashSet<>();
-      for (String called : scan.calls.get(name)) if (!called.equals(name)) reach(scan, called, reached);
+      for (String called : scan.calls.get(name)) {
+        if (!called.equals(name)) reach(scan, called, reached);
+      }
       check(!reached.contains(name), "rule 8: " + name + " calls itself by others");
       if (!scan.calls.get(name).contains(name)) continue;
       String modifiers = entry.getValue().getModifiers().getFlags().toString();

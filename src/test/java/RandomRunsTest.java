@@ -3,10 +3,12 @@ import java.util.Random;
 /**
  * Random runs, each answer compared with SlowResolver's. Loose runs try every call in every state,
  * wrong arguments too; dense runs begin with many versions and rules, so that there is much to
- * solve, to refuse and to explain.
+ * solve, to refuse and to explain. Full runs have 8 packages with 4 versions each; SlowResolver
+ * takes long for these, so they are few and short.
  */
 public final class RandomRunsTest {
   private static final int CALLS = 512;
+  private static final int STEPS_OF_FULL_RUN = 40;
   private static int wrong = 0;
 
   private final Random random;
@@ -21,19 +23,24 @@ public final class RandomRunsTest {
   private int calls = 0;
   private boolean failed = false;
 
-  private RandomRunsTest(int run, long seed) {
+  private RandomRunsTest(int run, long seed, boolean full) {
     this.run = run;
     random = new Random(seed);
-    dense = random.nextBoolean();
-    packs = dense ? 3 + random.nextInt(6) : 1 + random.nextInt(8);
+    dense = full || random.nextBoolean();
+    packs = full ? 8 : dense ? 3 + random.nextInt(6) : 1 + random.nextInt(8);
     firstPack = random.nextInt(9 - packs);
-    versions = packs <= 4 ? 4 : packs <= 6 ? 1 + random.nextInt(3) : 1 + random.nextInt(2);
+    versions = full || packs <= 4 ? 4
+        : packs <= 6 ? 1 + random.nextInt(3) : 1 + random.nextInt(2);
   }
 
   public static void main(String[] args) {
     int runs = args.length > 0 ? Integer.parseInt(args[0]) : 600;
     long seed = args.length > 1 ? Long.parseLong(args[1]) : 1;
-    for (int run = 0; run < runs; run++) new RandomRunsTest(run, seed * 1_000_003 + run).play();
+    for (int run = 0; run < runs; run++) {
+      long own = seed * 1_000_003 + run;
+      new RandomRunsTest(run, own, false).play();
+      if (run % 100 == 0) new RandomRunsTest(run, own, true).playFull();
+    }
     System.out.println(wrong == 0 ? runs + " random runs: all answers are as due"
         : wrong + " random runs had a wrong answer");
     if (wrong != 0) System.exit(1);
@@ -45,6 +52,20 @@ public final class RandomRunsTest {
       if (dense) denseStep();
       else step();
     }
+  }
+
+  private void playFull() {
+    fill();
+    for (int p = 0; p < packs; p++) {
+      for (int v = 1; slow.version(p, -1) < versions; v++) {
+        due("publish(" + p + ", " + v + ")", fast.publish(p, v), slow.publish(p, v));
+      }
+    }
+    for (int i = 0; i < STEPS_OF_FULL_RUN && calls < CALLS && !failed; i++) {
+      if (below(10) == 0) otherChange();
+      else ask();
+    }
+    due("digest()", fast.digest(), slow.digest());
   }
 
   private void due(String call, long got, long want) {

@@ -192,8 +192,25 @@ public final class ReadmeTest {
   private static void rules(List<List<String>> rows) {
     for (List<String> row : rows) {
       String text = plain(row.get(0));
-      check(typed(text).add() == 0, text + " is no rule");
+      VersionResolver x = typed(text);
+      check(x.add() == 0, text + " is no rule");
+      String said = row.get(1);
+      String feature = found("feature (\\d)", said);
+      check(x.rule(0, 0) == (feature.isEmpty() ? 0 : feature.charAt(0) - '0'), text + ": feature");
+      check(x.rule(0, 1) == pack(found("(?:if|and) ([a-h]) is", said)), text + ": condition");
+      check(x.rule(0, 2) == pack(found("([a-h]) must", said)), text + ": target");
+      check(x.rule(0, 3) == (said.matches(".*must (not|have no) .*") ? 1 : 0), text + ": forbids");
     }
+  }
+
+  /** The first group of the pattern, or an empty text. */
+  private static String found(String pattern, String words) {
+    Matcher m = Pattern.compile(pattern).matcher(words);
+    return m.find() ? m.group(1) : "";
+  }
+
+  private static int pack(String letter) {
+    return letter.isEmpty() ? VersionResolver.NONE : letter.charAt(0) - 'a';
   }
 
   /** Each call of the face, by the names that the document gives, and with the codes it names. */

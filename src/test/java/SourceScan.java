@@ -15,6 +15,7 @@ import com.sun.source.tree.LiteralTree;
 import com.sun.source.tree.MemberReferenceTree;
 import com.sun.source.tree.MethodInvocationTree;
 import com.sun.source.tree.MethodTree;
+import com.sun.source.tree.ModifiersTree;
 import com.sun.source.tree.NewArrayTree;
 import com.sun.source.tree.NewClassTree;
 import com.sun.source.tree.SynchronizedTree;
@@ -52,7 +53,10 @@ final class SourceScan extends TreePathScanner<Void, Void> {
   private static final Set<String> LIBRARY = Set.of("java.lang.Math.max", "java.lang.Math.min",
       "java.lang.Integer.bitCount", "java.lang.Integer.numberOfTrailingZeros",
       "java.lang.Long.bitCount", "java.lang.System.arraycopy");
-  private static final Set<String> NUMBERS = Set.of("int", "long", "short", "byte", "char", "boolean");
+  private static final Set<String> NUMBERS =
+      Set.of("int", "long", "short", "byte", "char", "boolean");
+  private static final Set<Modifier> MODIFIERS =
+      Set.of(Modifier.PUBLIC, Modifier.PRIVATE, Modifier.STATIC, Modifier.FINAL);
   // Besides constructors, what makes an object: a rule that is added, and its two ranges.
   private static final Set<String> MAKERS = Set.of("RuleText.makeRule", "Range.trimmed");
 
@@ -82,9 +86,16 @@ final class SourceScan extends TreePathScanner<Void, Void> {
     if (!holds) fault(rule, tree, otherwise);
   }
 
-  private Element element(Tree tree) { return trees.getElement(new TreePath(getCurrentPath(), tree)); }
+  private Element element(Tree tree) { return trees.getElement(path(tree)); }
 
-  private TypeMirror type(Tree tree) { return trees.getTypeMirror(new TreePath(getCurrentPath(), tree)); }
+  private TypeMirror type(Tree tree) { return trees.getTypeMirror(path(tree)); }
+
+  private TreePath path(Tree tree) { return new TreePath(getCurrentPath(), tree); }
+
+  private void checkModifiers(ModifiersTree modifiers) {
+    check(MODIFIERS.containsAll(modifiers.getFlags()), 6, modifiers, "" + modifiers);
+    check(modifiers.getAnnotations().isEmpty(), 4, modifiers, "" + modifiers);
+  }
 
   // ---- the file, classes, methods
 
@@ -99,12 +110,12 @@ final class SourceScan extends TreePathScanner<Void, Void> {
 
   @Override public Void visitClass(ClassTree tree, Void v) {
     classes++;
+    checkModifiers(tree.getModifiers());
     Set<Modifier> modifiers = tree.getModifiers().getFlags();
     Tree parent = getCurrentPath().getParentPath().getLeaf();
     if (parent instanceof ClassTree) {
       check(modifiers.contains(Modifier.STATIC), 2, tree, tree.getSimpleName() + " is not static");
-      boolean hidden = !modifiers.contains(Modifier.PUBLIC) && !modifiers.contains(Modifier.PROTECTED);
-      check(hidden, 1, tree, tree.getSimpleName() + " can be seen");
+      check(modifiers.contains(Modifier.PRIVATE), 1, tree, tree.getSimpleName() + " can be seen");
     } else {
       check(parent instanceof CompilationUnitTree, 2, tree, "a local or anonymous class");
     }
@@ -133,6 +144,7 @@ final class SourceScan extends TreePathScanner<Void, Void> {
     CompilationUnitTree unit = getCurrentPath().getCompilationUnit();
     long lines = line(unit, tree, false) - line(unit, tree, true) + 1;
     check(lines <= MOST_LINES, 11, tree, method + " has " + lines + " lines");
+    checkModifiers(tree.getModifiers());
     check(tree.getThrows().isEmpty(), 6, tree, method + " throws");
     if (tree.getReturnType() != null) checkType(type(tree.getReturnType()), tree, true);
     super.visitMethod(tree, v);
@@ -150,6 +162,7 @@ final class SourceScan extends TreePathScanner<Void, Void> {
   @Override public Void visitVariable(VariableTree tree, Void v) {
     Element self = trees.getElement(getCurrentPath());
     checkType(self.asType(), tree, false);
+    checkModifiers(tree.getModifiers());
     if (self.getKind() == ElementKind.FIELD && isStatic(tree)) {
       // Stricter than rule 5, which lets arrays be static, too.
       boolean constant = ((VariableElement) self).getConstantValue() != null;
@@ -186,7 +199,8 @@ final class SourceScan extends TreePathScanner<Void, Void> {
   @Override public Void visitNewClass(NewClassTree tree, Void v) {
     Element constructor = trees.getElement(getCurrentPath());
     check(tree.getClassBody() == null, 2, tree, "an anonymous class");
-    check(type(tree.getIdentifier()).toString().startsWith("VersionResolver."), 4, tree, "new " + tree);
+    String made = type(tree.getIdentifier()).toString();
+    check(made.startsWith("VersionResolver."), 4, tree, "new " + made);
     calls.get(method).add(name(constructor));
     checkMaker(tree);
     return super.visitNewClass(tree, v);
@@ -248,8 +262,8 @@ final class SourceScan extends TreePathScanner<Void, Void> {
   }
 
   @Override public Void visitLiteral(LiteralTree tree, Void v) {
-    boolean other = tree.getKind() == Tree.Kind.STRING_LITERAL || tree.getKind() == Tree.Kind.DOUBLE_LITERAL
-        || tree.getKind() == Tree.Kind.FLOAT_LITERAL;
+    boolean other = tree.getValue() instanceof String || tree.getValue() instanceof Double
+        || tree.getValue() instanceof Float;
     check(!other, 3, tree, "a text or a fraction, which this scan does not follow");
     return super.visitLiteral(tree, v);
   }
@@ -264,7 +278,8 @@ final class SourceScan extends TreePathScanner<Void, Void> {
   }
 
   @Override public Void visitCompoundAssignment(CompoundAssignmentTree tree, Void v) {
-    if (tree.getKind() == Tree.Kind.DIVIDE_ASSIGNMENT || tree.getKind() == Tree.Kind.REMAINDER_ASSIGNMENT) {
+    Tree.Kind kind = tree.getKind();
+    if (kind == Tree.Kind.DIVIDE_ASSIGNMENT || kind == Tree.Kind.REMAINDER_ASSIGNMENT) {
       checkDivisor(tree.getExpression());
     }
     return super.visitCompoundAssignment(tree, v);
@@ -275,7 +290,8 @@ final class SourceScan extends TreePathScanner<Void, Void> {
     Object value = null;
     if (tree instanceof LiteralTree literal) value = literal.getValue();
     if (element(tree) instanceof VariableElement variable) value = variable.getConstantValue();
-    check(value instanceof Number n && n.longValue() != 0, 7, tree, "a divisor that is no constant");
+    boolean fine = value instanceof Number n && n.longValue() != 0;
+    check(fine, 7, tree, "a divisor that is no constant");
   }
 
   // ---- loops
